@@ -30,9 +30,14 @@ final class Check {
     /** As refused(), and the object is then as one on which the call was never made. */
     void refusedWithoutTrace(String what, Class<? extends RuntimeException> due,
             Supplier<CommitDesk> make, Consumer<CommitDesk> call) {
-        CommitDesk called = make.get();
-        refused(what, due, () -> call.accept(called));
-        same("after " + what + " the object", Probe.of(called), Probe.of(make.get()));
+        CommitDesk desk = make.get();
+        refused(what, due, () -> call.accept(desk));
+        leavesNoTrace(what, make, call);
+    }
+
+    /** After the call the object is as one on which it was never made. */
+    void leavesNoTrace(String what, Supplier<CommitDesk> make, Consumer<CommitDesk> call) {
+        same("after " + what + " the object", Probe.of(() -> called(make, call)), Probe.of(make));
     }
 
     void end() {
@@ -40,6 +45,12 @@ final class Check {
         if (wrong != 0 || looked == 0) {
             System.exit(1);
         }
+    }
+
+    private static CommitDesk called(Supplier<CommitDesk> make, Consumer<CommitDesk> call) {
+        CommitDesk desk = make.get();
+        thrownBy(() -> call.accept(desk));
+        return desk;
     }
 
     private static String thrownBy(Runnable call) {

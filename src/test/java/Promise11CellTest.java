@@ -1,20 +1,50 @@
-/** Promise 11: cell. */
+/** Promise 11: cell: "What a CELL has." */
 public final class Promise11CellTest {
     public static void main(String[] args) {
         Check check = new Check();
-        tellsWhatTheCellHas(check);
+        everyCellAndNumber(check);
+        notWhatIsWrittenBeforeItIsDone(check);
+        notWhatIsTakenBackOrLeft(check);
         isNoRead(check);
         wrongInputs(check);
         check.end();
     }
 
-    private static void tellsWhatTheCellHas(Check check) {
+    private static void everyCellAndNumber(Check check) {
+        for (long v : Edges.NUMBERS) {
+            CommitDesk desk = new CommitDesk();
+            for (int k = 0; k < 32; k++) {
+                check.same("cell(" + k + ") before set", desk.cell(k), 0);
+                desk.set(k, v + k);
+                check.same("cell(" + k + ")", desk.cell(k), v + k);
+            }
+        }
+    }
+
+    private static void notWhatIsWrittenBeforeItIsDone(Check check) {
         CommitDesk desk = openWithWriting();
         check.same("cell(0)", desk.cell(0), Long.MIN_VALUE);
         check.same("cell(31), written but not done", desk.cell(31), Long.MAX_VALUE);
         desk.done(0);
         check.same("cell(31), done", desk.cell(31), -1);
         check.same("cell(0), done", desk.cell(0), Long.MIN_VALUE);
+    }
+
+    private static void notWhatIsTakenBackOrLeft(Check check) {
+        CommitDesk left = openWithWriting();
+        left.leave(0);
+        check.same("cell(31), left", left.cell(31), Long.MAX_VALUE);
+        CommitDesk stale = openWithWriting();
+        stale.read(0, 5);
+        stale.set(5, 0);
+        stale.done(0);
+        check.same("cell(31), stale", stale.cell(31), Long.MAX_VALUE);
+        CommitDesk back = openWithWriting();
+        back.save(0);
+        back.write(0, 0, 7);
+        back.back(0);
+        back.done(0);
+        check.same("cell(0), taken back", back.cell(0), Long.MIN_VALUE);
     }
 
     private static void isNoRead(Check check) {
@@ -36,8 +66,7 @@ public final class Promise11CellTest {
     }
 
     private static void wrongInputs(Check check) {
-        int[] none = {-1, 32, Integer.MIN_VALUE, Integer.MAX_VALUE};
-        for (int k : none) {
+        for (int k : Edges.NO_CELL) {
             check.refusedWithoutTrace("cell(" + k + ")", IndexOutOfBoundsException.class,
                     Promise11CellTest::openWithWriting, desk -> desk.cell(k));
         }

@@ -2,15 +2,31 @@
 public final class Promise13CountTest {
     public static void main(String[] args) {
         Check check = new Check();
-        countsReadCells(check);
-        countsWrittenCells(check);
-        countsParts(check);
-        tellsWhetherItIsStale(check);
+        nothingAtFirst(check);
+        what0CountsReadCells(check);
+        what1CountsWrittenCells(check);
+        what1CountsNothingTakenBack(check);
+        what2CountsParts(check);
+        what3TellsWhetherItIsStale(check);
+        askingEndsNothing(check);
+        ofAnOpenOneAlone(check);
         wrongInputs(check);
         check.end();
     }
 
-    private static void countsReadCells(Check check) {
+    private static void nothingAtFirst(Check check) {
+        int[] due = {0, 0, 1, 0};
+        for (int t = 0; t < 8; t++) {
+            CommitDesk desk = new CommitDesk();
+            desk.begin(t);
+            for (int what = 0; what < 4; what++) {
+                check.same("count(" + t + ", " + what + ") at first", desk.count(t, what), due[what]);
+            }
+        }
+    }
+
+    /** "what 0: CELLS that are READ": from none to every one, each once. */
+    private static void what0CountsReadCells(Check check) {
         CommitDesk desk = new CommitDesk();
         desk.begin(7);
         for (int k = 0; k < 32; k++) {
@@ -23,7 +39,8 @@ public final class Promise13CountTest {
         check.same("cells written", desk.count(7, 1), 1);
     }
 
-    private static void countsWrittenCells(Check check) {
+    /** "1: those in which it has WRITTEN": from none to every one, each once. */
+    private static void what1CountsWrittenCells(Check check) {
         CommitDesk desk = new CommitDesk();
         desk.begin(0);
         for (int k = 0; k < 32; k++) {
@@ -31,26 +48,44 @@ public final class Promise13CountTest {
             desk.write(0, k, 1);
             check.same("cells written", desk.count(0, 1), k + 1);
         }
-        desk.save(0);
-        desk.write(0, 4, 1);
-        check.same("cells written, one in both parts", desk.count(0, 1), 32);
+        for (int parts = 2; parts <= 5; parts++) {
+            desk.save(0);
+            desk.write(0, 31, 1);
+            desk.write(0, 0, 1);
+            check.same("cells written, two in " + parts + " parts", desk.count(0, 1), 32);
+        }
         check.same("cells read", desk.count(0, 0), 0);
     }
 
-    private static void countsParts(Check check) {
+    private static void what1CountsNothingTakenBack(Check check) {
         CommitDesk desk = new CommitDesk();
         desk.begin(0);
-        check.same("parts", desk.count(0, 2), 1);
+        desk.write(0, 1, 1);
         desk.save(0);
-        desk.save(0);
-        check.same("parts after two saves", desk.count(0, 2), 3);
-        desk.keep(0);
-        check.same("parts after keep", desk.count(0, 2), 2);
+        desk.write(0, 1, 2);
+        desk.write(0, 2, 2);
+        check.same("cells written in both parts", desk.count(0, 1), 2);
         desk.back(0);
-        check.same("parts after back", desk.count(0, 2), 1);
+        check.same("cells written after back", desk.count(0, 1), 1);
     }
 
-    private static void tellsWhetherItIsStale(Check check) {
+    /** "2: PARTS": from one to five. */
+    private static void what2CountsParts(Check check) {
+        CommitDesk desk = new CommitDesk();
+        desk.begin(0);
+        for (int parts = 1; parts < 5; parts++) {
+            check.same("parts", desk.count(0, 2), parts);
+            desk.save(0);
+        }
+        check.same("parts", desk.count(0, 2), 5);
+        desk.keep(0);
+        check.same("parts after keep", desk.count(0, 2), 4);
+        desk.back(0);
+        check.same("parts after back", desk.count(0, 2), 3);
+    }
+
+    /** "3: whether it is STALE (1, 0)". */
+    private static void what3TellsWhetherItIsStale(Check check) {
         CommitDesk desk = new CommitDesk();
         desk.begin(0);
         desk.set(1, 1);
@@ -62,8 +97,31 @@ public final class Promise13CountTest {
         desk.set(1, 2);
         desk.set(1, 1);
         check.same("stale by a cell that has its number again", desk.count(0, 3), 1);
-        check.same("open when asked", desk.all(0), 1);
-        check.same("stale ones when asked", desk.all(2), 0);
+        desk.set(1, 1);
+        check.same("stale by three changes", desk.count(0, 3), 1);
+    }
+
+    private static void askingEndsNothing(Check check) {
+        for (int what = 0; what < 4; what++) {
+            int one = what;
+            check.leavesNoTrace("count(2, " + what + ") of a stale one", Desks::busy, desk -> desk.count(2, one));
+        }
+        CommitDesk desk = Desks.busy();
+        check.same("stale", desk.count(2, 3), 1);
+        check.same("open when asked", desk.all(0), 5);
+        check.same("stale ones when asked", desk.all(2), 1);
+    }
+
+    /** "Of an OPEN TRANSACTION". */
+    private static void ofAnOpenOneAlone(Check check) {
+        for (int t = 5; t < 8; t++) {
+            int one = t;
+            for (int what = 0; what < 4; what++) {
+                int asked = what;
+                check.refusedWithoutTrace("count(" + t + ", " + what + ") not open", IllegalStateException.class,
+                        Desks::busy, desk -> desk.count(one, asked));
+            }
+        }
     }
 
     private static CommitDesk withOneOpen() {
@@ -74,18 +132,21 @@ public final class Promise13CountTest {
         return desk;
     }
 
+    /** "IllegalArgumentException for others, too." */
     private static void wrongInputs(Check check) {
-        int[] noTransaction = {-1, 8, Integer.MIN_VALUE, Integer.MAX_VALUE};
-        int[] noWhat = {-1, 4, Integer.MIN_VALUE, Integer.MAX_VALUE};
-        for (int what : noWhat) {
+        for (int what : Edges.NO_WHAT_OF_COUNT) {
             check.refusedWithoutTrace("count(0, " + what + ")", IllegalArgumentException.class,
                     Promise13CountTest::withOneOpen, desk -> desk.count(0, what));
             check.refusedWithoutTrace("count(1, " + what + ") not open", IllegalArgumentException.class,
                     Promise13CountTest::withOneOpen, desk -> desk.count(1, what));
+            for (int t : Edges.NO_TRANSACTION) {
+                check.refused("count(" + t + ", " + what + ")", IllegalArgumentException.class,
+                        () -> withOneOpen().count(t, what));
+            }
         }
         for (int what = 0; what < 4; what++) {
             int one = what;
-            for (int t : noTransaction) {
+            for (int t : Edges.NO_TRANSACTION) {
                 check.refusedWithoutTrace("count(" + t + ", " + what + ")", IllegalArgumentException.class,
                         Promise13CountTest::withOneOpen, desk -> desk.count(t, one));
             }
